@@ -227,6 +227,13 @@ public final class PromisesTest {
         dueDelay("d3(50000*50000<0);d4(i=i)", 3);
         dueDelay("d3([0-32768*65536]/[0-1]<0&[0-32768*65536]%[0-1]=0);d4(i=i)", 3);
         dueDelay("d3(i=1);d4(i=0);d5(i=0)", 4);
+        dueDelay("d2(i=9);".repeat(15) + "d7(i=i)", 7);
+        dueDelay("d10" + "+0".repeat(116) + "(i=i)", 10);
+        LoadsAhead often = bench("#1,1", "d2+3*4-1(i=i&i=i&i=i)");
+        for (int i = 0; i < 60; i++) {
+            law(often, "d2+3*4-1(i=i&i=i&i=i)");
+        }
+        due("told often", often.tried(1, 0), 14);
     }
 
     private static void lawLetters() {
@@ -316,6 +323,11 @@ public final class PromisesTest {
         x.feed(0x23312c31, 0x3b23312c, 0x313b2331, 0x2c313b23, 0x312c313b);
         due("program 21 of 20", x.program(21), -1);
         due("tape stays", x.count(5), 20);
+        x.program(1);
+        for (int i = 0; i < 12; i++) {
+            x.feed(0, 0, 0, 0, 0);
+        }
+        due("program 240 of 240", x.program(240), -1000);
     }
 
     private static void programGoesBy() {
@@ -443,11 +455,46 @@ public final class PromisesTest {
         due("run", along.run(4), 15);
         dueLast("by a store", along, 15, 2, 6, 1, 1, 2);
         due("r4", along.now(4), 14);
+        LoadsAhead second = bench("#1,7;Sb1,0;Lb2,0;Sb2,9;Lh3,8;+4,3,3", "d9(i=0);d1(k=2);d1(k=3)");
+        due("run", second.run(4), 15);
+        dueLast("by its second byte", second, 15, 2, 6, 1, 1, 2);
+        due("r4", second.now(4), 2 * 7 * 256);
+        LoadsAhead beside = bench("#1,7;Sb1,0;Lb2,0;Sb2,9;Lw5,20;Lb3,9;+4,3,3", "d9(i=0);d1(k=2);d1(k=3)");
+        due("run", beside.run(4), 15);
+        dueLast("what took none is left alone", beside, 15, 2, 6, 1, 1, 2);
         // two wrong ones, the second of which the first takes along
         LoadsAhead twice = bench("#1,2;Sb1,2;Lb2,2;Lb3,r2+2", "d6(i=0);d1(k=2)");
         due("run", twice.run(4), 10);
         dueLast("wrong all the same", twice, 10, 2, 2, 0, 0, 0);
         due("the place by the register", twice.opIs(3, 5), 4);
+        replayingWhatIsOff();
+        undoingAtAnotherPlace();
+    }
+
+    /** Load 6 took its byte from store 3 and is off again when that is replayed: it is left alone. */
+    private static void replayingWhatIsOff() {
+        LoadsAhead x = bench("#1,7;Sb1,0;Lb2,0;Sb2,1;#3,5;Sb3,1;Lb4,1",
+            "d9(i=0);d3(i=4);d3(i=6&n=0);d16(i=6);d1(k=2)");
+        due("run", x.run(4), 21);
+        dueLast("off", x, 21, 2, 3, 3, 3, 0);
+        due("r4", x.now(4), 5);
+        due("worst", x.worst(0), 2);
+    }
+
+    /** Store 4 was retired at 61 to 0, is replayed while x holds store 2 back, and goes to 1 to 4 then. */
+    private static void undoingAtAnotherPlace() {
+        LoadsAhead x = bench("#3,1;#1,7;Sb1,0;Lb2,0;Sw5,r2+58", "d20(i=0);d6(i=1);d1(k=2);x(i=2)");
+        x.register(5, 0x04030201);
+        int[] before = {3, 0, 0, 0, 0, 0, 11, 12, 13};
+        int[] after = {7, 1, 2, 3, 4, 0, 11, 12, 13};
+        for (int i = 0; i < 9; i++) {
+            x.poke(i < 6 ? i : 55 + i, before[i]);
+        }
+        due("run", x.run(4), 22);
+        dueLast("undone", x, 22, 1, 2, 1, 1, 0);
+        for (int i = 0; i < 9; i++) {
+            due("byte " + i, x.now(100 + (i < 6 ? i : 55 + i)), after[i]);
+        }
     }
 
     private static void promise8() {
