@@ -34,6 +34,33 @@ public final class CallBoundsTest extends Bench {
         due("a run with the seed 1 draws 2", bench("#1,1", "d5+w(i=i)").run(1), 8);
     }
 
+    private static void ofItsOwn() {
+        sentence("`NONE = -1`: There is none.");
+        due("NONE", LoadsAhead.NONE, -1);
+        sentence("All memory is the bench's own.");
+        LoadsAhead other = new LoadsAhead();
+        int[] before = seen(other);
+        LoadsAhead x = bench(SMALL, LATE);
+        x.run(4);
+        x.watch(0, 2);
+        x.watch(1, 2);
+        x.keep();
+        x.register(7, 7);
+        x.poke(63, 7);
+        x.seed(7);
+        x.feed(1, 2, 3, 4, 5);
+        dueSame("calls of another object", other, before);
+        due("undo", other.undo(), false);
+        before = seen(x);
+        program(other, "#7,9;Sb7,63");
+        law(other, "d20(i=i)");
+        other.run(1);
+        other.forget();
+        other.keep();
+        other.undo();
+        dueSame("calls of another object", x, before);
+    }
+
     private static void registerAndPoke() {
         sentence("A REGISTER becomes a number: true; false: no such one.");
         LoadsAhead x = bench(SMALL, LATE);
@@ -96,7 +123,9 @@ public final class CallBoundsTest extends Bench {
     }
 
     private static void texts() {
-        sentence("THE LAW by the first n bytes of the tape (1 to 240; empty then)");
+        sentence("THE LAW by the first n bytes of the tape (1 to 240; empty then), in place of the one before: how many"
+            + " RULES; a FAULT: -1000 times its number, less its place (the one before stays); NONE: no such n, it has not"
+            + " so many (the tape stays).");
         LoadsAhead x = bench(SMALL, LATE);
         for (int i = 0; i < 13; i++) {
             feed(x, "d3(i=i);d4(i=i);d5(i");
@@ -417,6 +446,7 @@ public final class CallBoundsTest extends Bench {
     private static void deepAndMix() {
         sentence("DEEP (no PROGRAM: 0).");
         due("deep", new LoadsAhead().deep(), 0);
+        sentence("DEEP: the most OPS one behind the other each of which has the one ahead as a SOURCE.");
         due("one", bench("#1,1", "").deep(), 1);
         due("none is a source", bench("#1,1;#2,1;Sb3,0;Lb4,0", "").deep(), 1);
         due("two", bench("#1,1;Sb1,0", "").deep(), 2);
@@ -425,8 +455,9 @@ public final class CallBoundsTest extends Bench {
         due("the last giver alone", bench("#1,1;+1,1,1;#1,2;+2,1,1", "").deep(), 2);
         due("nineteen", bench("+1,1,1" + ";+1,1,1".repeat(18) + ";#1,1", "").deep(), 19);
         due("twenty", bench("+1,1,1" + ";+1,1,1".repeat(19), "").deep(), 20);
-        sentence("MIX: how many twos of a load and a store ahead of it cover a byte both, in PLAIN from now.");
+        sentence("MIX (no PROGRAM: 0).");
         due("no program", new LoadsAhead().mix(), 0);
+        sentence("MIX: how many twos of a load and a store ahead of it cover a byte both, in PLAIN from now.");
         due("the load is ahead", bench("Lb1,0;Sb1,0", "").mix(), 0);
         for (int place = 7; place <= 13; place++) {
             due("h at " + place, bench("Sh1," + place + ";Lh2,10", "").mix(), place >= 9 && place <= 11 ? 1 : 0);
@@ -800,6 +831,7 @@ public final class CallBoundsTest extends Bench {
 
     public static void main(String[] args) {
         newObject();
+        ofItsOwn();
         registerAndPoke();
         feeding();
         texts();

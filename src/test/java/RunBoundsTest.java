@@ -50,6 +50,36 @@ public final class RunBoundsTest extends Bench {
         due("a load of a number reads none", moves.source(6, 2), -2);
     }
 
+    private static void stages() {
+        sentence("An OP is WAITING (at first), OFF (till a CYCLE), or DONE.");
+        for (int delay = 1; delay <= 20; delay++) {
+            LoadsAhead x = bench("#1,1;Lb2,0;Sb3,0", "d" + delay + "(i=i)");
+            due("run", x.run(1), delay + 3);
+            dueOps(x, 2, delay, delay + 1, delay + 2);
+        }
+        sentence("one that is WAITING, all of whose SOURCES are DONE, and that need not wait by its SET");
+        for (String reads : new String[] {"+3,1,2", "+3,2,1", "Sb1,r2+0", "Sb2,r1+0"}) {
+            for (int late = 0; late <= 1; late++) {
+                LoadsAhead x = bench("#1,1;#2,2;" + reads, "d3(i=" + (1 - late) + ");d7(i=" + late + ")");
+                x.run(4);
+                due("behind both", x.opIs(2, 2), 8);
+            }
+        }
+        sentence("One that reckons has its value by its SOURCES' as they are.");
+        LoadsAhead again = bench("Sb1,0;Lb2,0;+3,2,2;>4,3,2", "d9(i=0);d1(i>0)");
+        again.register(1, 5);
+        again.poke(0, 100);
+        again.run(4);
+        dueOps(again, 3, 0, 1, 1, 1);
+        dueOps(again, 4, 5, 5, 10, 1);
+        sentence("In order (PLAIN) each OP is done one behind the other.");
+        LoadsAhead plain = bench("#1,5;Sb1,0;#1,6;Lb2,0;Sb1,0;Lb3,0;-1,3,2", "d9(i=0)");
+        due("r1", plain.plain(1), 1);
+        due("r2", plain.plain(2), 5);
+        due("r3", plain.plain(3), 6);
+        due("memory", plain.plain(100), 6);
+    }
+
     private static void cycles() {
         sentence("CYCLES (how many, CYCLE 0 with them)");
         LoadsAhead least = bench("#1,1", "");
@@ -194,7 +224,7 @@ public final class RunBoundsTest extends Bench {
     }
 
     private static void retired() {
-        sentence("the oldest that is DONE and not RETIRED");
+        sentence("Then one store may be RETIRED: the oldest that is DONE and not RETIRED");
         LoadsAhead x = bench("Sb1,0;Sb2,0;Sb3,0", "");
         x.register(1, 10);
         x.register(2, 20);
@@ -261,6 +291,11 @@ public final class RunBoundsTest extends Bench {
         LoadsAhead again = bench("#1,7;#4,9;+5,4,4;Sb1,0;Sb2,0", "d6(i=0);d20(i=1)");
         due("run", again.run(4), 22);
         dueLast(again, 22, 0, 0, 3, 1, 0);
+        sentence("UNDONE: how often one was");
+        // store 4 is undone at 5 by store 2 and at 9 by store 3
+        LoadsAhead twice = bench("#1,1;#2,1;Sb1,0;Sb2,1;Sb3,2", "d4(i=0);d8(i=1)");
+        due("run", twice.run(4), 11);
+        dueLast(twice, 11, 0, 0, 3, 2, 0);
         sentence("A store that is REPLAYED and was RETIRED: all RETIRED ones from the youngest down to it are UNDONE.");
         LoadsAhead older = bench("#3,1;#1,7;Sb5,20;Sb1,0;Lb2,0;Sb2,30;Sb5,21", "d20(i=0);d6(i=1);d1(k=2);x(i=3)");
         due("run", older.run(4), 23);
@@ -322,6 +357,16 @@ public final class RunBoundsTest extends Bench {
     }
 
     private static void replayed() {
+        sentence("WRONG loads (each time one); REPLAYED OPS (each time one)");
+        for (int stores = 1; stores <= 4; stores++) {
+            // store i is done at 4 i + 4, the load behind them two cycles after each
+            LoadsAhead often = bench("Sb1,0;".repeat(stores) + "Lb2,0;+3,2,2", "d4*i+4(k=3)");
+            often.run(4);
+            due("wrong", often.lastRun(1), stores);
+            due("replayed", often.lastRun(2), 2 * stores);
+            due("of the load", often.opIs(stores, 3), stores);
+            due("of what depends on it", often.opIs(stores + 1, 3), stores);
+        }
         sentence("(one that is WAITING by then is WRONG all the same, but not REPLAYED once more)");
         LoadsAhead twice = bench("#1,2;Sb1,2;Lb2,2;Lb3,r2+2", "d6(i=0);d1(k=2)");
         due("run", twice.run(4), 10);
@@ -330,7 +375,7 @@ public final class RunBoundsTest extends Bench {
         LoadsAhead apart = bench("#1,2;Sb1,2;Lb2,2;Lb3,2", "d6(i=0);d1(k=2)");
         apart.run(4);
         dueLast(apart, 9, 2, 2, 0, 0, 0);
-        sentence("with it each that is not WAITING (DONE or OFF) and has it as a SOURCE");
+        sentence("REPLAYED is an OP: it is WAITING; with it each that is not WAITING (DONE or OFF) and has it as a SOURCE");
         LoadsAhead off = bench("Sb1,0;Lb2,0;+3,2,2;+4,3,3;#6,1;+5,2,6", "d6(i=0);d9(i=3);d20(i=4);d1(i=1)");
         due("run", off.run(4), 22);
         dueLast(off, 22, 1, 3, 0, 0, 0);
@@ -481,6 +526,7 @@ public final class RunBoundsTest extends Bench {
     public static void main(String[] args) {
         wide();
         sources();
+        stages();
         cycles();
         done();
         fromMemory();
