@@ -283,6 +283,11 @@ public final class CallBoundsTest extends Bench {
             }
             due("far beyond", load.opIs(2, MOST), -4);
         }
+        LoadsAhead highest = bench("Sb1,3" + ";#2,1".repeat(18) + ";Lw3,0", "");
+        highest.run(4);
+        for (int i = 0; i < 4; i++) {
+            due("byte " + i + " of op 19", highest.opIs(19, 10 + i), i == 3 ? 0 : -2);
+        }
         sentence("of a store what it stored, of b, h the lowest bytes alone, without a sign");
         int[] values = {0, 1, 127, 128, 255, 256, 32767, 32768, 65535, 65536, -1, -128, -129, LEAST, MOST};
         LoadsAhead store = bench("Sb1,0;Sh1,4;Sw1,8", "");
@@ -304,6 +309,12 @@ public final class CallBoundsTest extends Bench {
         due("source(3, 7)", x.source(3, 7), 1);
         due("source(0, 0)", x.source(0, 0), -2);
         due("source(0, 7)", x.source(0, 7), -2);
+        LoadsAhead anew = bench("+1,0,2;+1,0,2;+1,0,2;Sb0,r2+0", "");
+        due("a new one", program(anew, "#0,1;#2,2;#1,3;Lb1,0"), 4);
+        for (int r = 0; r < 8; r++) {
+            due("# reads none", anew.source(2, r), -2);
+            due("a load of a number reads none", anew.source(3, r), -2);
+        }
         for (int r : new int[] {-1, 8, LEAST, MOST}) {
             due("source(2, " + r + ")", x.source(2, r), -1);
         }
@@ -373,6 +384,7 @@ public final class CallBoundsTest extends Bench {
         dueFastest("#1,1;+1,1,1;+1,1,1", "", 1, 4);
         dueFastest("#1,1;#2,2", "d20(i=1&c=0)", 1, 3);
         dueFastest("#1,1;#2,2;#3,3", "d20(i=2&c=0)", 2, 3);
+        dueFastest("Sb1,0;Lb2,9", "d6(i<2)", 2, 7);
     }
 
     private static void dueFastest(String program, String law, int wide, int cycles) {
@@ -436,6 +448,13 @@ public final class CallBoundsTest extends Bench {
         dueOps(last, 3, 0, 0, 1, 2);
         due("the highest", last.worst(0), 3);
         due("twice", last.worst(1), 2);
+        LoadsAhead second = bench("Sb1,0;Lb2,0", "d4(i=0);d1(i=1)");
+        second.run(4);
+        due("op 1", second.worst(0), 1);
+        LoadsAhead all = bench("Sb1,0" + ";Lb2,9".repeat(18) + ";Lb2,0", "d20(i=0);d1(i=19)");
+        all.run(4);
+        due("op 19", all.worst(0), 19);
+        due("once", all.worst(1), 1);
         LoadsAhead first = bench("Sb1,0;Sb1,1;Lh2,0;Lb3,0", "d4(i=0);d7(i=1);d1(i>1)");
         first.run(4);
         dueOps(first, 3, 0, 0, 2, 1);
@@ -454,7 +473,10 @@ public final class CallBoundsTest extends Bench {
         due("the deeper source", bench("#1,1;+2,1,1;#3,1;+4,3,2;+5,2,3", "").deep(), 3);
         due("the last giver alone", bench("#1,1;+1,1,1;#1,2;+2,1,1", "").deep(), 2);
         due("nineteen", bench("+1,1,1" + ";+1,1,1".repeat(18) + ";#1,1", "").deep(), 19);
-        due("twenty", bench("+1,1,1" + ";+1,1,1".repeat(19), "").deep(), 20);
+        LoadsAhead twenty = bench("+1,1,1" + ";+1,1,1".repeat(19), "");
+        due("twenty", twenty.deep(), 20);
+        due("a shorter one", program(twenty, "+1,1,1;+1,1,1;+1,1,1"), 3);
+        due("three", twenty.deep(), 3);
         sentence("MIX (no PROGRAM: 0).");
         due("no program", new LoadsAhead().mix(), 0);
         sentence("MIX: how many twos of a load and a store ahead of it cover a byte both, in PLAIN from now.");

@@ -72,6 +72,12 @@ public final class LawBoundsTest extends Bench {
         due("rules", x.count(4), 1);
         due("without a d", law(x, "x(i=i)"), 1);
         due("in its place", x.tried(1, 0), 2);
+        LoadsAhead ahead = bench("#1,1;Sb2,0", "d9(i=0);x(i=1);x(i=1)");
+        due("held back", ahead.tried(4, 3), 0);
+        due("without an x", law(ahead, "d9(i=0)"), 1);
+        due("not held back", ahead.tried(4, 3), 1);
+        due("an x ahead of the d", law(ahead, "x(i=1);d9(i=0)"), 2);
+        due("held back", ahead.tried(4, 3), 0);
     }
 
     private static void delays() {
@@ -137,6 +143,10 @@ public final class LawBoundsTest extends Bench {
         dueHolds("0-1<0", true);
         dueHolds("0-32768*65536<32767*65536", true);
         dueHolds("!0=1", true);
+        dueHolds("!4<5", false);
+        dueHolds("!5<5", true);
+        dueHolds("!6>5", false);
+        dueHolds("!5>5", true);
         dueHolds("!0=0", false);
         dueHolds("!!0=0", true);
         dueHolds("!!!!!0=0", false);
@@ -250,6 +260,11 @@ public final class LawBoundsTest extends Bench {
             law(s, "d4(i=0);d1(i=1)");
             s.forget();
         }
+        LoadsAhead learns = bench("#1,5;Sb1,0;Lb2,0", "d4(i=0);d1(k=2&s=16);d7(s=0)");
+        due("as it is by then: the load goes off at 5 with 0", learns.run(4), 13);
+        LoadsAhead store = bench("Sb1,0;Lb2,0;#3,1;+3,3,3;Sb1,1", "d4(i=0);d9(i=2);x(s=16&i=4)");
+        store.run(4);
+        due("x is asked with it, too", store.lastRun(3), 0);
         sentence("r RUNS so far (without this one) modulo 100");
         LoadsAhead r = bench("#1,1", "d3(r=0);d4(r=1);d5(r=98);d6(r=99);d7(r>99);d1(i=i)");
         for (int runs = 0; runs <= 201; runs++) {

@@ -364,6 +364,7 @@ public final class ProgramBoundsTest extends Bench {
         x.poke(6, 67);
         x.watch(0, 2);
         x.watch(1, 1);
+        x.watch(1, 0);
         x.run(4);
         int[] before = seen(x);
         for (String refused : new String[] {"#1,5;", "#1,12345", ops(21), ";", "#8,1"}) {
@@ -382,7 +383,7 @@ public final class ProgramBoundsTest extends Bench {
         due("watched", x.count(10), 2);
         int drawn = x.count(6);
         due("the same text is a new one, too", x.program(text.length()), 3);
-        dueCounts(x, 1, 3, 1, 1, 2, 0, drawn, 0, 0, 0, 0, 2);
+        dueCounts(x, 1, 3, 1, 1, 2, 0, drawn, 1, 0, 0, 0, 2);
         dueOps(x, 1, -2, -2, -2);
         due("watched", x.watched(0, 0, 6), -4);
         due("watched", x.watched(1, 0, 6), -4);

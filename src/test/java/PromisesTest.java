@@ -1,49 +1,5 @@
 /** For each promise of the document ordinary inputs, edges and wrong inputs, reckoned by hand. */
-public final class PromisesTest {
-    private static int wrong;
-    private static String promise = "";
-
-    private static void due(String call, int got, int want) {
-        if (got != want) {
-            wrong++;
-            System.out.println(promise + ": " + call + " answered " + got + ", due is " + want);
-        }
-    }
-
-    private static void due(String call, boolean got, boolean want) {
-        due(call, got ? 1 : 0, want ? 1 : 0);
-    }
-
-    private static void feed(LoadsAhead x, String text) {
-        for (int from = 0; from < text.length(); from += 20) {
-            int[] fed = new int[5];
-            for (int i = 0; i < 20; i++) {
-                int sign = from + i < text.length() ? text.charAt(from + i) : 'a';
-                fed[i / 4] = fed[i / 4] << 8 | sign;
-            }
-            x.feed(fed[0], fed[1], fed[2], fed[3], fed[4]);
-        }
-    }
-
-    private static int program(LoadsAhead x, String text) {
-        feed(x, text);
-        return x.program(text.length());
-    }
-
-    private static int law(LoadsAhead x, String text) {
-        feed(x, text);
-        return x.law(text.length());
-    }
-
-    private static LoadsAhead bench(String program, String law) {
-        LoadsAhead x = new LoadsAhead();
-        due("program " + program, program(x, program) > 0, true);
-        if (!law.isEmpty()) {
-            due("law " + law, law(x, law) > 0, true);
-        }
-        return x;
-    }
-
+public final class PromisesTest extends Bench {
     /** What lastRun() tells, 0 to 5. */
     private static void dueLast(String name, LoadsAhead x, int... wanted) {
         for (int what = 0; what < wanted.length; what++) {
@@ -112,16 +68,6 @@ public final class PromisesTest {
         }
         y.feed(0xf0f1f2f3, 0xf4f5f6f7, 0xf8f9fafb, 0xfcfdfeff, 0x9c9d9e9f);
         due("in order", y.check(20), -1);
-    }
-
-    private static void dueLaw(String text, int answer) {
-        due("law " + text, law(new LoadsAhead(), text), answer);
-    }
-
-    /** The delay that a law tells for the one op of a program, of kind 0. */
-    private static void dueDelay(String text, int delay) {
-        LoadsAhead x = bench("#1,1", text);
-        due("delay by " + text, x.tried(1, 0), delay + 1);
     }
 
     private static void promise5() {
@@ -253,10 +199,6 @@ public final class PromisesTest {
         due("n: wrong at 5, off till 9", n.run(4), 10);
         LoadsAhead s = bench("#1,5;Sb1,0;Lb2,0", "d4(i=0);d1(k=2&s=16);d7(s=0)");
         due("s: the load's set is 0 at 5, off till 12", s.run(4), 13);
-    }
-
-    private static void dueProgram(String text, int answer) {
-        due("program " + text, program(new LoadsAhead(), text), answer);
     }
 
     private static void promise6() {
@@ -887,7 +829,7 @@ public final class PromisesTest {
     }
 
     private static void name(int number) {
-        promise = "promise " + number;
+        sentence("## Promise " + number + ":");
     }
 
     public static void main(String[] args) {
@@ -917,9 +859,6 @@ public final class PromisesTest {
         name(24); promise24And25();
         name(26); promise26();
         name(27); promise27();
-        System.out.println(wrong == 0 ? "all promises hold" : wrong + " answers are not as due");
-        if (wrong != 0) {
-            System.exit(1);
-        }
+        end();
     }
 }

@@ -215,6 +215,12 @@ public final class RunBoundsTest extends Bench {
         for (int wide = 1; wide <= 4; wide++) {
             due("from 0 to 4", x.tried(wide, 5), 5);
         }
+        LoadsAhead room = bench("#1,5;Sb1,0;Lb2,0;#4,1;#5,1", "d4(i=0);d1(k=2)");
+        room.run(4);
+        room.run(1);
+        due("one that is kept leaves room for one behind it", room.opIs(3, 2), 2);
+        due("and the next", room.opIs(4, 2), 3);
+        due("kept from 0 to 4", room.lastRun(5), 5);
         sentence("an OP whose SOURCES were DONE was kept from going OFF by its SET");
         LoadsAhead late = bench("#1,5;Sb1,0;#3,0;Lb2,r3+0", "d4(i=0);d3(i=2);d1(k=2)");
         late.run(4);
@@ -291,6 +297,7 @@ public final class RunBoundsTest extends Bench {
         LoadsAhead again = bench("#1,7;#4,9;+5,4,4;Sb1,0;Sb2,0", "d6(i=0);d20(i=1)");
         due("run", again.run(4), 22);
         dueLast(again, 22, 0, 0, 3, 1, 0);
+        besideTheUndone();
         sentence("UNDONE: how often one was");
         // store 4 is undone at 5 by store 2 and at 9 by store 3
         LoadsAhead twice = bench("#1,1;#2,1;Sb1,0;Sb2,1;Sb3,2", "d4(i=0);d8(i=1)");
@@ -303,19 +310,35 @@ public final class RunBoundsTest extends Bench {
         undoneElsewhere();
     }
 
-    /** Store 4 was retired at 61 to 0; replayed, it goes to 1 to 4, and what it covered first is as it was. */
-    private static void undoneElsewhere() {
-        LoadsAhead x = bench("#3,1;#1,7;Sb1,0;Lb2,0;Sw5,r2+58", "d20(i=0);d6(i=1);d1(k=2);x(i=2)");
-        x.register(5, 0x04030201);
-        int[] before = {3, 0, 0, 0, 0, 0, 11, 12, 13};
-        int[] after = {7, 1, 2, 3, 4, 0, 11, 12, 13};
-        for (int i = 0; i < 9; i++) {
-            x.poke(i < 6 ? i : 55 + i, before[i]);
+    /** Stores of each size are retired ahead and undone by store 1; no byte beside them changes. */
+    private static void besideTheUndone() {
+        LoadsAhead x = bench("#1,7;Sb1,40;Sw2,20;Sh2,30;Sb2,35;#3,0;Sw2,50" + ";#3,0".repeat(12) + ";Sw2,60", "d20(i=0)");
+        for (int at = 0; at < 64; at++) {
+            x.poke(at, 100 + at);
         }
-        due("run", x.run(4), 22);
-        dueLast(x, 22, 1, 2, 1, 1, 0);
-        for (int i = 0; i < 9; i++) {
-            due("byte " + i, x.now(100 + (i < 6 ? i : 55 + i)), after[i]);
+        x.run(4);
+        due("ahead", x.lastRun(3), 5);
+        due("undone", x.lastRun(4), 5);
+        for (int at = 0; at < 64; at++) {
+            boolean stored = at >= 20 && at < 24 || at >= 30 && at < 32 || at == 35 || at >= 50 && at < 54 || at >= 60;
+            due("byte " + at, x.now(100 + at), stored ? 0 : at == 40 ? 7 : 100 + at);
+        }
+    }
+
+    /** Stores 4, 5 were retired at 61 to 0; replayed, they go to 1 to 4, and what they covered is as it was. */
+    private static void undoneElsewhere() {
+        LoadsAhead x = bench("#3,1;#1,7;Sb1,0;Lb2,0;Sw5,r2+58;Sw6,r2+58", "d20(i=0);d6(i=1);d1(k=2);x(i=2)");
+        x.register(5, 0x14131211);
+        x.register(6, 0x04030201);
+        int[] before = {3, 0, 0, 0, 0, 8, 10, 11, 12, 13};
+        int[] after = {7, 1, 2, 3, 4, 8, 10, 11, 12, 13};
+        for (int i = 0; i < 10; i++) {
+            x.poke(i < 6 ? i : 54 + i, before[i]);
+        }
+        due("run", x.run(4), 23);
+        dueLast(x, 23, 1, 3, 2, 2, 0);
+        for (int i = 0; i < 10; i++) {
+            due("byte " + i, x.now(100 + (i < 6 ? i : 54 + i)), after[i]);
         }
     }
 
@@ -345,6 +368,10 @@ public final class RunBoundsTest extends Bench {
         dueWrong("Sb1,0;Sb2,0;Lb3,0", "d9(i=0);d12(i=1);d2(k=2)", 2);
         dueWrong("Sb1,3;Sb2,0;Lw3,0", "d9(i=0);d1(i=1);d2(k=2)", 1);
         dueWrong("Sb1,3;Sh2,0;Lh3,0", "d9(i=0);d1(i=1);d2(k=2)", 0);
+        for (int place = 0; place < 4; place++) {
+            dueWrong("Sb1," + place + ";Sb2," + place + ";Lw3,0", "d9(i=0);d1(i=1);d2(k=2)", 0);
+            dueWrong("Sb1," + place + ";Sb2," + place + ";Lw3,0", "d1(i=0);d9(i=1);d2(k=2)", 1);
+        }
         dueWrong("Sw1,0;Sb2,0;Lb3,0", "d9(i=0);d1(i=1);d2(k=2)", 0);
         dueWrong("Sw1,0;Sb2,0;Lh3,0", "d9(i=0);d1(i=1);d2(k=2)", 1);
     }
@@ -395,6 +422,13 @@ public final class RunBoundsTest extends Bench {
             LoadsAhead word = bench("#1,7;Sb1,0;Lb2,0;Sb2," + place + ";Lw3,6", "d9(i=0);d1(i=2);d1(i=3);d4(i=4)");
             word.run(4);
             due("took a byte of " + place, word.opIs(4, 3), place >= 6 && place <= 9 ? 1 : 0);
+        }
+        // of three loads only the middle one took from store 3, its last byte or its first
+        for (int place : new int[] {20, 23}) {
+            LoadsAhead middle = bench("#1,7;Sb1,0;Lb2,0;Sb2," + place + ";Lw3,10;Lw4,20;Lw5,30",
+                "d9(i=0);d1(i=2);d1(i=3);d4(i>3)");
+            middle.run(4);
+            dueOps(middle, 3, 0, 0, 1, 1, 0, 1, 0);
         }
         LoadsAhead left = bench("#1,7;Sb1,0;Lb2,0;Sb2,1;#3,5;Sb3,1;Lb4,1",
             "d9(i=0);d3(i=4);d3(i=6&n=0);d16(i=6);d1(k=2)");
