@@ -780,7 +780,6 @@ public final class LoadsAhead {
             System.arraycopy(other.steps, 0, steps, 0, TEXT);
             System.arraycopy(other.operands, 0, operands, 0, TEXT);
             length = other.length;
-            stepCount = other.stepCount;
         }
 
         /** How many rules the text has, or its fault. */

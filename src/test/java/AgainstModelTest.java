@@ -5,7 +5,7 @@ import java.util.Random;
 /** Drawn calls (the draws are always the same) on the class and on the model: all answers are alike. */
 public final class AgainstModelTest {
     private static final int OBJECTS = 1500;
-    private static final int CALLS = 480;
+    private static final int CALLS = 512;
     private static int wrong;
 
     private final Random random;

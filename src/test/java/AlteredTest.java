@@ -7,8 +7,6 @@ import java.nio.file.Path;
 import java.util.Comparator;
 import java.util.List;
 import java.util.stream.Stream;
-import javax.tools.JavaCompiler;
-import javax.tools.ToolProvider;
 
 /**
  * By the document's rules every run ends long before cycle 2000, and leaves what a plain run leaves. So that
@@ -18,15 +16,15 @@ import javax.tools.ToolProvider;
 public final class AlteredTest {
     private static final Path SOURCE = Path.of("src/main/java/LoadsAhead.java");
 
-    private static void compileWith(Path directory, String rule, String other) throws IOException {
+    private static void compileWith(Path directory, String rule, String other) throws Exception {
         String text = Files.readString(SOURCE, StandardCharsets.UTF_8);
         if (text.indexOf(rule) < 0 || text.indexOf(rule) != text.lastIndexOf(rule)) {
             throw new IllegalStateException("not there once: " + rule);
         }
         Path copy = directory.resolve("LoadsAhead.java");
         Files.writeString(copy, text.replace(rule, other), StandardCharsets.UTF_8);
-        JavaCompiler compiler = ToolProvider.getSystemJavaCompiler();
-        if (compiler.run(null, null, null, "-d", directory.toString(), copy.toString()) != 0) {
+        Process javac = new ProcessBuilder("javac", "-d", directory.toString(), copy.toString()).inheritIO().start();
+        if (javac.waitFor() != 0) {
             throw new IllegalStateException("the copy does not compile");
         }
     }
